@@ -46,7 +46,7 @@ public final class PermissionDesk {
         if (now.club.users >= MOST_USERS) {
             throw new IllegalStateException("there are 12 users");
         }
-        history.record(now);
+        history.keep(now);
         return now.club.takeUser();
     }
 
@@ -54,7 +54,7 @@ public final class PermissionDesk {
         if (now.club.groups >= MOST_GROUPS) {
             throw new IllegalStateException("there are 8 groups");
         }
-        history.record(now);
+        history.keep(now);
         return now.club.takeGroup();
     }
 
@@ -64,7 +64,7 @@ public final class PermissionDesk {
         if (now.club.hasMember(group, user)) {
             throw new IllegalStateException("the user is a member already");
         }
-        history.record(now);
+        history.keep(now);
         now.club.setMember(group, user, true);
         return now.club.countUsersIn(group);
     }
@@ -75,7 +75,7 @@ public final class PermissionDesk {
         if (!now.club.hasMember(group, user)) {
             throw new IllegalStateException("the user is no member");
         }
-        history.record(now);
+        history.keep(now);
         now.club.setMember(group, user, false);
         return now.club.countUsersIn(group);
     }
@@ -86,7 +86,7 @@ public final class PermissionDesk {
         if (inner == outer || now.club.hasInner(outer, inner) || now.club.isWithin(outer, inner)) {
             throw new IllegalStateException("the group can't be nested there");
         }
-        history.record(now);
+        history.keep(now);
         now.club.setInner(outer, inner, true);
         return now.club.countUsersIn(outer);
     }
@@ -97,7 +97,7 @@ public final class PermissionDesk {
         if (!now.club.hasInner(outer, inner)) {
             throw new IllegalStateException("the group is not nested there");
         }
-        history.record(now);
+        history.keep(now);
         now.club.setInner(outer, inner, false);
         return now.club.countUsersIn(outer);
     }
@@ -111,7 +111,7 @@ public final class PermissionDesk {
         if (object == NONE) {
             throw new IllegalStateException("there are 20 objects");
         }
-        history.record(now);
+        history.keep(now);
         now.tree.putObject(object, parent, owner);
         now.lists.empty(object);
         return object;
@@ -122,7 +122,7 @@ public final class PermissionDesk {
         if (object == ROOT || now.tree.countUnder(object) > 0) {
             throw new IllegalStateException("the object can't be removed");
         }
-        history.record(now);
+        history.keep(now);
         now.tree.dropObject(object);
         now.lists.empty(object);
         return now.tree.count();
@@ -134,7 +134,7 @@ public final class PermissionDesk {
         if (object == ROOT || parent == object || now.tree.isUnder(parent, object)) {
             throw new IllegalStateException("the object can't be moved there");
         }
-        history.record(now);
+        history.keep(now);
         int before = now.tree.parentAt(object);
         now.tree.setParent(object, parent);
         return before;
@@ -143,7 +143,7 @@ public final class PermissionDesk {
     public int giveTo(int object, int owner) throws IndexOutOfBoundsException {
         requireObject(object);
         requireUser(owner);
-        history.record(now);
+        history.keep(now);
         int before = now.tree.ownerAt(object);
         now.tree.setOwner(object, owner);
         return before;
@@ -152,7 +152,7 @@ public final class PermissionDesk {
     public int setMask(int object, int rights) throws IndexOutOfBoundsException, IllegalArgumentException {
         requireObject(object);
         requireRights(rights, 0);
-        history.record(now);
+        history.keep(now);
         int before = now.tree.maskAt(object);
         now.tree.limitTo(object, rights);
         return before;
@@ -160,7 +160,7 @@ public final class PermissionDesk {
 
     public boolean setInheriting(int object, boolean isInheriting) throws IndexOutOfBoundsException {
         requireObject(object);
-        history.record(now);
+        history.keep(now);
         boolean before = now.tree.inherits(object);
         now.tree.letInherit(object, isInheriting);
         return before;
@@ -196,7 +196,7 @@ public final class PermissionDesk {
 
     public int removeEntry(int object, int entry) throws IndexOutOfBoundsException {
         requireEntry(object, entry);
-        history.record(now);
+        history.keep(now);
         now.lists.takeOut(object, entry);
         return now.lists.countAt(object);
     }
@@ -204,7 +204,7 @@ public final class PermissionDesk {
     public int moveEntry(int object, int entry, int place) throws IndexOutOfBoundsException {
         requireEntry(object, entry);
         requireEntry(object, place);
-        history.record(now);
+        history.keep(now);
         judge.keepTable(now);
         int code = now.lists.takeOut(object, entry);
         now.lists.putIn(object, place, code);
@@ -218,7 +218,7 @@ public final class PermissionDesk {
         requireUser(user);
         requireObject(object);
         requireRight(right);
-        history.record(now);
+        history.keep(now);
         boolean isGranted = judge.grants(now, user, object, right);
         now.log.put(user, object, isGranted);
         return isGranted;
@@ -235,7 +235,7 @@ public final class PermissionDesk {
             throw new IllegalStateException("the giver lacks one of these rights");
         }
         requireRoom(object);
-        history.record(now);
+        history.keep(now);
         now.lists.putIn(object, 0, Entry.code(Entry.USER, user, rights, true, false));
         return judge.rightsAt(now, user, object);
     }
@@ -270,7 +270,7 @@ public final class PermissionDesk {
         if (!text.isKnownTo(now)) {
             throw new IllegalStateException("the pad tells of what there is not");
         }
-        history.record(now);
+        history.keep(now);
         now.lists.empty(text.object);
         for (int entry = 0; entry < MOST_ENTRIES && entry < text.count; entry++) {
             now.lists.putIn(text.object, entry, text.entryAt(entry));
@@ -533,7 +533,7 @@ public final class PermissionDesk {
         if (snapshot == null) {
             throw new IllegalStateException("there is no snapshot in the slot");
         }
-        history.record(now);
+        history.keep(now);
         now.copyFrom(snapshot);
         return now.tree.count();
     }
@@ -598,7 +598,7 @@ public final class PermissionDesk {
     private int addLast(int object, int kind, int number, int rights, boolean allows, boolean below) {
         requireRights(rights, 1);
         requireRoom(object);
-        history.record(now);
+        history.keep(now);
         int code = Entry.code(kind, number, rights, allows, below);
         now.lists.putIn(object, now.lists.countAt(object), code);
         return now.lists.countAt(object);
@@ -1015,14 +1015,10 @@ public final class PermissionDesk {
             }
         }
 
-        boolean isOwner(int user, int object) {
-            return tree.ownerAt(object) == user;
-        }
-
         /** Whether a right is allowed, if this is the deciding entry (0: there is none). */
         boolean grants(int user, int object, int right, int decider) {
             return user == KEEPER
-                    || right == MANAGE && isOwner(user, object)
+                    || right == MANAGE && tree.ownerAt(object) == user
                     || Entry.allows(decider) && has(tree.maskAt(object), right);
         }
     }
@@ -1039,7 +1035,7 @@ public final class PermissionDesk {
             }
         }
 
-        void record(State state) {
+        void keep(State state) {
             if (kept >= MOST_STATES) {
                 oldest = Math.floorMod(oldest + 1, MOST_STATES);
                 kept--;
@@ -1089,14 +1085,14 @@ public final class PermissionDesk {
         }
 
         boolean isStopped(State state, int user, int object, int right) {
-            return !grants(state, user, object, right)
+            return !has(rightsAt(state, user, object), right)
                     && isIndex(right, RIGHTS) && Entry.allows(deciders[right]);
         }
 
         int countUsers(State state, int object, int right) {
             int count = 0;
             for (int user = 0; user < MOST_USERS && user < state.club.users; user++) {
-                if (grants(state, user, object, right)) {
+                if (has(rightsAt(state, user, object), right)) {
                     count++;
                 }
             }
@@ -1161,7 +1157,7 @@ public final class PermissionDesk {
             Arrays.fill(places, NONE);
             Arrays.fill(deciders, 0);
             int groups = state.club.groupsOver(user);
-            boolean isOwner = state.isOwner(user, object);
+            boolean isOwner = state.tree.ownerAt(object) == user;
             int open = EVERY_RIGHT;
             int at = object;
             for (int level = 0; level < MOST_OBJECTS && at != NONE && open != 0; level++) {
@@ -1203,7 +1199,7 @@ public final class PermissionDesk {
 
         private int decider(State state, int user, int object, int right) {
             int groups = state.club.groupsOver(user);
-            boolean isOwner = state.isOwner(user, object);
+            boolean isOwner = state.tree.ownerAt(object) == user;
             for (int n = 0; n < LONGEST && n < lengthAt(object); n++) {
                 int code = codeIn(object, n);
                 if (has(Entry.rights(code), right) && Entry.isFor(code, user, groups, isOwner)) {
