@@ -113,7 +113,6 @@ public final class PermissionDesk {
         }
         history.keep(now);
         now.tree.putObject(object, parent, owner);
-        now.lists.empty(object);
         return object;
     }
 

@@ -1246,7 +1246,32 @@ public final class PromisesTest {
         Check.is("undo takes the request back", x.requests(), 19);
         Check.is(x.refusals(), refusals - 1);
         Check.is(x.objectOfRequest(0), 18);
-        Check.is(x.objectOfRequest(7), 11);
+        latestRequests(x, 18);
+        requestsComeBack();
+    }
+
+    /** The request that a later one has driven out of the log comes back with undo. */
+    private static void requestsComeBack() {
+        PermissionDesk x = desk(3, 0);
+        x.make(0, 0);
+        x.ask(0, 1, 0);
+        for (int n = 0; n < 7; n++) {
+            x.ask(2, 0, 0);
+        }
+        x.save(0);
+        x.ask(1, 0, 1);
+        Check.is(x.userOfRequest(7), 2);
+        x.undo();
+        Check.is(x.userOfRequest(7), 0);
+        Check.is(x.objectOfRequest(7), 1);
+        Check.is(x.wasAllowed(7), true);
+        x.ask(1, 0, 1);
+        x.restore(0);
+        Check.is(x.userOfRequest(7), 0);
+        Check.is(x.objectOfRequest(7), 1);
+        Check.is(x.wasAllowed(7), true);
+        Check.is(x.requests(), 8);
+        Check.is(x.refusals(), 7);
     }
 
     /** The keeper may all; who owns the object n may manage. */
