@@ -821,14 +821,7 @@ public final class PromisesTest {
         Check.is(list(x, 1), "1:+u2=rx;-g1=m*");
         x.undo();
         Check.is(list(x, 1), "1:+a=rwxm*");
-        String[] wrong = {"2:", "19:+a=r", "1:+u3=r", "1:+g2=r", "1:+a=r;-u2=w;+u3=r", "1:+a=r;+g7=r",
-            "1:+a", "1", "1:+a=r;", "1:+a=rr", "1:+u11=r", "1:+a=r!"};
-        for (String text : wrong) {
-            type(x, text);
-            Check.noState(() -> x.loadEntries());
-            Check.is("the pad stays", typed(x), text);
-            Check.is(list(x, 1), "1:+a=rwxm*");
-        }
+        wrongTexts();
         type(x, "1:+u2=r;+g1=r;+o=r;+a=r;+u0=r;+g0=r");
         Check.is(x.loadEntries(), 6);
         x.make(0, 0);
@@ -837,6 +830,20 @@ public final class PromisesTest {
         x.remove(2);
         type(x, "2:-a=r");
         Check.noState(() -> x.loadEntries());
+    }
+
+    private static void wrongTexts() {
+        String[] wrong = {"2:", "19:+a=r", "1:+u3=r", "1:+g2=r", "1:+a=r;-u2=w;+u3=r", "1:+a=r;+g7=r",
+            "1:+a", "1", "1:+a=r;", "1:+a=rr", "1:+u11=r", "1:+a=r!"};
+        for (String text : wrong) {
+            PermissionDesk x = desk(3, 2);
+            x.make(0, 1);
+            x.addForAll(1, 15, true, true);
+            type(x, text);
+            Check.noState(() -> x.loadEntries());
+            Check.is("the pad stays", typed(x), text);
+            Check.is(list(x, 1), "1:+a=rwxm*");
+        }
     }
 
     private static void writeEntries() {
@@ -984,9 +991,11 @@ public final class PromisesTest {
             x.make(object - 1, 0);
         }
         for (int object = 0; object < 20; object++) {
-            type(x, object + ":-u0=w*;-u0=w*;-u0=w*;-u0=w*;-u0=w*" + (object == 0 ? ";+u1=rx*" : ""));
-            x.loadEntries();
+            for (int entry = 0; entry < 5; entry++) {
+                x.addForUser(object, 0, 2, false, true);
+            }
         }
+        x.addForUser(0, 1, 5, true, true);
         Check.is("from the object 0 to the lowest", allowed(x, 1, 19, 2), true);
         Check.is(x.decidingObject(1, 19, 0), 0);
         Check.is(x.decidingEntry(1, 19, 0), 5);
