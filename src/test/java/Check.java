@@ -18,6 +18,10 @@ final class Check {
         part = name;
     }
 
+    static int asked() {
+        return asked;
+    }
+
     static void is(String what, Object got, Object due) {
         asked++;
         if (!Objects.equals(got, due)) {
@@ -64,7 +68,7 @@ final class Check {
 
     private static String at() {
         for (StackTraceElement e : new Throwable().getStackTrace()) {
-            if (!e.getClassName().equals("Check")) {
+            if (!e.getClassName().equals("Check") && !e.getClassName().equals("Sentences")) {
                 return " (" + e.getFileName() + ":" + e.getLineNumber() + ")";
             }
         }

@@ -1,7 +1,6 @@
 /** For each promise: ordinary calls, the edges that the document names, and wrong arguments. */
-public final class PromisesTest {
+public final class PromisesTest extends Desks {
 
-    private static final int NONE = -1;
     private static final int[] ODD = {NONE, Integer.MIN_VALUE, Integer.MAX_VALUE, 1000, 32, 64, -32};
 
     public static void main(String[] args) {
@@ -76,46 +75,6 @@ public final class PromisesTest {
         everyChangeRecords();
         refusedCallsChangeNothing();
         saveAndRestore();
-    }
-
-    /** Users 0 to users - 1, and groups 0 to groups - 1. */
-    private static PermissionDesk desk(int users, int groups) {
-        PermissionDesk desk = new PermissionDesk();
-        for (int user = 1; user < users; user++) {
-            desk.addUser();
-        }
-        for (int group = 0; group < groups; group++) {
-            desk.addGroup();
-        }
-        return desk;
-    }
-
-    private static void type(PermissionDesk desk, String text) {
-        desk.clear();
-        for (int i = 0; i < text.length(); i++) {
-            desk.append(text.charAt(i));
-        }
-    }
-
-    private static String typed(PermissionDesk desk) {
-        StringBuilder text = new StringBuilder();
-        for (int i = 0; i < 80; i++) {
-            int code = desk.codeAt(i);
-            if (code == NONE) {
-                return text.toString();
-            }
-            text.append((char) code);
-        }
-        return text.toString();
-    }
-
-    /** The list of an object as a text, by a pad that keeps what it had. */
-    private static String list(PermissionDesk desk, int object) {
-        String before = typed(desk);
-        desk.writeEntries(object);
-        String text = typed(desk);
-        type(desk, before);
-        return text;
     }
 
     private static void newObject() {
@@ -1342,11 +1301,11 @@ public final class PromisesTest {
             x.nest(0, 1);
             x.save(0);
             x.addUser();
-            String before = all(x);
+            String before = seen(x);
             Check.is("change " + n, change(x, n), true);
-            String after = all(x);
+            String after = seen(x);
             Check.is("change " + n + " records", x.undo(), 4);
-            Check.is("change " + n + " is undone", all(x), before);
+            Check.is("change " + n + " is undone", seen(x), before);
             Check.is("change " + n + " is seen", after.equals(before), n == 21 || n == 22);
         }
     }
@@ -1379,33 +1338,6 @@ public final class PromisesTest {
         }
     }
 
-    /** All that can be seen of the state. */
-    private static String all(PermissionDesk x) {
-        StringBuilder text = new StringBuilder();
-        text.append(x.users()).append(' ').append(x.groups()).append(' ').append(x.allRights());
-        for (int group = 0; group < x.groups(); group++) {
-            for (int user = 0; user < x.users(); user++) {
-                text.append(x.isMember(user, group) ? "1" : "0");
-            }
-            for (int inner = 0; inner < x.groups(); inner++) {
-                text.append(x.isNested(inner, group) ? "1" : "0");
-            }
-        }
-        for (int object = 0; object < 20; object++) {
-            if (x.isThere(object)) {
-                text.append(' ').append(list(x, object)).append(' ').append(x.parentOf(object))
-                        .append(' ').append(x.ownerOf(object)).append(' ').append(x.maskOf(object))
-                        .append(x.isInheriting(object));
-            }
-        }
-        text.append(' ').append(x.requests()).append(' ').append(x.refusals());
-        for (int ago = 0; ago < Math.min(x.requests(), 8); ago++) {
-            text.append(' ').append(x.userOfRequest(ago)).append(x.objectOfRequest(ago))
-                    .append(x.wasAllowed(ago));
-        }
-        return text.toString();
-    }
-
     private static void refusedCallsChangeNothing() {
         Check.part("refused calls");
         PermissionDesk x = desk(12, 8);
@@ -1415,7 +1347,7 @@ public final class PromisesTest {
         x.undo();
         x.undo();
         type(x, "0:+");
-        String before = all(x);
+        String before = seen(x);
         Check.noState(() -> x.addUser());
         Check.noState(() -> x.leave(0, 0));
         Check.noState(() -> x.unnest(0, 1));
@@ -1440,7 +1372,7 @@ public final class PromisesTest {
         Check.noArgument(() -> x.restore(2));
         Check.noState(() -> x.undo());
         Check.is(typed(x), "0:+");
-        Check.is(all(x), before);
+        Check.is(seen(x), before);
     }
 
     private static void saveAndRestore() {
@@ -1454,16 +1386,16 @@ public final class PromisesTest {
         x.ask(1, 1, 0);
         Check.is(x.save(0), 2);
         type(x, "abc");
-        String second = all(x);
+        String second = seen(x);
         Check.is(x.restore(1), 1);
         Check.is(x.requests(), 0);
         Check.is("the pad stays", typed(x), "abc");
         Check.is(x.restore(0), 2);
-        Check.is(all(x), second);
+        Check.is(seen(x), second);
         x.make(0, 0);
         x.setMask(1, 0);
         Check.is("a snapshot stays", x.restore(0), 2);
-        Check.is(all(x), second);
+        Check.is(seen(x), second);
         x.undo();
         Check.is("restore is a change", x.objects(), 3);
         Check.is(x.save(0), 3);

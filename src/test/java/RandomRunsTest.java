@@ -1,8 +1,4 @@
-import java.lang.reflect.InvocationTargetException;
 import java.lang.reflect.Method;
-import java.lang.reflect.Modifier;
-import java.util.ArrayList;
-import java.util.Comparator;
 import java.util.HashMap;
 import java.util.List;
 import java.util.Map;
@@ -26,7 +22,6 @@ public final class RandomRunsTest {
     private final StringBuilder calls = new StringBuilder();
     private int made = 0;
 
-    private static final List<Method> METHODS = new ArrayList<>();
     private static final Map<String, Method> OF_MODEL = new HashMap<>();
     private static final TreeMap<String, int[]> SEEN = new TreeMap<>();
 
@@ -37,14 +32,10 @@ public final class RandomRunsTest {
 
     public static void main(String[] args) throws Exception {
         int runs = args.length > 0 ? Integer.parseInt(args[0]) : 600;
-        for (Method method : PermissionDesk.class.getDeclaredMethods()) {
-            if (Modifier.isPublic(method.getModifiers())) {
-                METHODS.add(method);
-                OF_MODEL.put(method.getName(),
-                        Model.class.getDeclaredMethod(method.getName(), method.getParameterTypes()));
-            }
+        for (Method method : Face.METHODS) {
+            OF_MODEL.put(method.getName(),
+                    Model.class.getDeclaredMethod(method.getName(), method.getParameterTypes()));
         }
-        METHODS.sort(Comparator.comparing(Method::getName));
         for (int seed = 0; seed < runs; seed++) {
             Check.part("run " + seed);
             if (!new RandomRunsTest(seed).run()) {
@@ -63,21 +54,21 @@ public final class RandomRunsTest {
         }
     }
 
-    private boolean run() throws Exception {
+    private boolean run() {
         int growth = random.nextInt(120);
         while (made < CALLS) {
             boolean fine;
             int kind = random.nextInt(60);
             if (made < growth || kind < 15) {
-                fine = call(method(GROWING[random.nextInt(GROWING.length)]));
+                fine = call(Face.method(GROWING[random.nextInt(GROWING.length)]));
             } else if (kind < 30) {
-                fine = call(method(DEAR[random.nextInt(DEAR.length)]));
+                fine = call(Face.method(DEAR[random.nextInt(DEAR.length)]));
             } else if (kind == 30) {
                 fine = typeText();
             } else if (kind == 31) {
                 fine = undoAll();
             } else {
-                fine = call(METHODS.get(random.nextInt(METHODS.size())));
+                fine = call(Face.METHODS.get(random.nextInt(Face.METHODS.size())));
             }
             if (!fine) {
                 return false;
@@ -86,25 +77,16 @@ public final class RandomRunsTest {
         return true;
     }
 
-    private boolean undoAll() throws Exception {
+    private boolean undoAll() {
         boolean fine = true;
         for (int n = random.nextInt(8); fine && n > 0; n--) {
-            fine = compare(method("undo"));
+            fine = compare(Face.method("undo"));
         }
         return fine;
     }
 
-    private static Method method(String name) {
-        for (Method method : METHODS) {
-            if (method.getName().equals(name)) {
-                return method;
-            }
-        }
-        throw new IllegalArgumentException(name);
-    }
-
-    private boolean call(Method method) throws Exception {
-        String roles = roles(method.getName());
+    private boolean call(Method method) {
+        String roles = Face.roles(method.getName());
         Object[] values = new Object[method.getParameterCount()];
         int object = 0;
         for (int i = 0; i < values.length; i++) {
@@ -120,42 +102,13 @@ public final class RandomRunsTest {
         return compare(method, values);
     }
 
-    /** What the parameters are: u a user, g a group, o an object, e an entry, s a set of rights, .. */
-    private static String roles(String method) {
-        switch (method) {
-            case "join": case "leave": case "isMember": case "belongs": case "belongsByMembers":
-            case "rightsThrough": return "ug";
-            case "nest": case "unnest": case "isNested": return "gg";
-            case "make": case "giveTo": return "ou";
-            case "move": return "oo";
-            case "setMask": return "os";
-            case "setInheriting": return "ob";
-            case "addForUser": return "ousbb";
-            case "addForGroup": return "ogsbb";
-            case "addForOwner": case "addForAll": return "osbb";
-            case "moveEntry": return "oee";
-            case "removeEntry": case "isAllowing": case "rightsOfEntry": case "userOfEntry":
-            case "groupOfEntry": case "isForOwner": case "isForBelow": case "isNeedless": return "oe";
-            case "share": return "uous";
-            case "append": return "c";
-            case "codeAt": return "p";
-            case "usersWith": return "or";
-            case "rightsOf": return "uo";
-            case "userOfRequest": case "objectOfRequest": case "wasAllowed": return "a";
-            case "save": case "restore": return "l";
-            case "ask": case "isAllowed": case "isAllowedByHandingDown": case "decidingObject":
-            case "decidingEntry": case "isStoppedByMask": return "uor";
-            default: return "o";
-        }
-    }
-
-    private boolean compare(Method method, Object... values) throws Exception {
+    private boolean compare(Method method, Object... values) {
         if (made >= CALLS) {
             return true;
         }
         made++;
-        Object due = outcome(OF_MODEL.get(method.getName()), model, values);
-        Object got = outcome(method, desk, values);
+        Object due = Face.outcome(OF_MODEL.get(method.getName()), model, values);
+        Object got = Face.outcome(method, desk, values);
         calls.append(method.getName()).append(List.of(values)).append(' ').append(due).append('\n');
         Check.is(method.getName() + List.of(values), got, due);
         String key = method.getName() + (due instanceof String ? " " + due : "");
@@ -165,14 +118,6 @@ public final class RandomRunsTest {
             return false;
         }
         return true;
-    }
-
-    private static Object outcome(Method method, Object on, Object[] values) throws Exception {
-        try {
-            return method.invoke(on, values);
-        } catch (InvocationTargetException e) {
-            return e.getCause().getClass().getName();
-        }
     }
 
     /** Mostly a number that is there, at times one next to the edge, or far off. */
@@ -185,10 +130,10 @@ public final class RandomRunsTest {
         switch (role) {
             case 'u': return isEdge ? model.users() : random.nextInt(model.users());
             case 'g': return isEdge || model.groups() == 0 ? model.groups() : random.nextInt(model.groups());
-            case 'o': return anObject(isEdge);
+            case 'o': case 'n': return anObject(isEdge);
             case 'e': return random.nextInt(entries(object) + (isEdge || entries(object) == 0 ? 1 : 0));
             case 'r': return random.nextInt(isEdge ? 6 : 4);
-            case 's': return isEdge ? 16 * random.nextInt(2) : random.nextInt(16);
+            case 's': case 'm': return isEdge ? 16 * random.nextInt(2) : random.nextInt(16);
             case 'l': return random.nextInt(isEdge ? 3 : 2);
             case 'a': return random.nextInt(Math.min(8, model.requests()) + (kind < 5 ? 2 : 1));
             case 'c': return isEdge ? 32 + 95 * random.nextInt(2) : "0123456789:;+-ugoarwxm=*".charAt(random.nextInt(24));
@@ -210,7 +155,7 @@ public final class RandomRunsTest {
     }
 
     /** A text that is a list, or nearly one, is typed, looked at, and loaded at times. */
-    private boolean typeText() throws Exception {
+    private boolean typeText() {
         StringBuilder text = new StringBuilder(listText());
         int kind = random.nextInt(4);
         if (kind == 0) {
@@ -218,14 +163,14 @@ public final class RandomRunsTest {
         } else if (kind == 1) {
             text.deleteCharAt(random.nextInt(text.length()));
         }
-        boolean fine = compare(method("clear"));
+        boolean fine = compare(Face.method("clear"));
         for (int i = 0; fine && i < text.length(); i++) {
-            fine = compare(method("append"), (int) text.charAt(i));
+            fine = compare(Face.method("append"), (int) text.charAt(i));
         }
-        fine = fine && compare(method("fault"));
-        fine = fine && compare(method("loadEntries"));
-        fine = fine && compare(method("codeAt"), 0);
-        return fine && compare(method("writeEntries"), random.nextInt(4));
+        fine = fine && compare(Face.method("fault"));
+        fine = fine && compare(Face.method("loadEntries"));
+        fine = fine && compare(Face.method("codeAt"), 0);
+        return fine && compare(Face.method("writeEntries"), random.nextInt(4));
     }
 
     private String listText() {
