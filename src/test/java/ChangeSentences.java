@@ -29,6 +29,7 @@ final class ChangeSentences extends Sentences {
             changeToTheSame(each.getKey(), each.getValue());
         }
         noChanges();
+        whatIsOfTheState();
         whatIsNotOfTheState();
         history();
         whatIsThrown();
@@ -96,8 +97,20 @@ final class ChangeSentences extends Sentences {
                 String before = seen(x);
                 act.on(x);
                 is("something is different", seen(x).equals(before), false);
+                othersStay(name, x, stage.desk());
                 undone(stage, x, before);
+                is("the slots", slots(x), slots(stage.desk()));
             });
+        }
+    }
+
+    /** The log is changed by requests alone, the pad by loading alone. */
+    private static void othersStay(String name, PermissionDesk x, PermissionDesk before) {
+        if (!name.equals("ask") && !name.equals("restore")) {
+            is("the log", log(x), log(before));
+        }
+        if (!name.equals("loadEntries")) {
+            is("the pad", typed(x), typed(before));
         }
     }
 
@@ -144,15 +157,20 @@ final class ChangeSentences extends Sentences {
         return text.append("too many").toString();
     }
 
-    /** All that there is: the pad, the state, the history, and the slots. */
-    private static String everything(PermissionDesk x) {
-        String now = typed(x) + "\n" + seen(x) + "\n" + trail(x);
+    /** What the slots bring back. */
+    private static String slots(PermissionDesk x) {
+        String text = "";
         for (int slot = 0; slot < 2; slot++) {
             int from = slot;
             Object restored = Check.outcome(() -> x.restore(from));
-            now += "\nslot " + restored + " " + (restored instanceof Integer ? brief(x) : "");
+            text += "\nslot " + restored + " " + (restored instanceof Integer ? brief(x) : "");
         }
-        return now;
+        return text;
+    }
+
+    /** All that there is: the pad, the state, the history, and the slots. */
+    private static String everything(PermissionDesk x) {
+        return typed(x) + "\n" + seen(x) + "\n" + trail(x) + slots(x);
     }
 
     /** Calls that are no changes leave the state and the history as they are. */
@@ -162,15 +180,9 @@ final class ChangeSentences extends Sentences {
             String name = method.getName();
             if (!changes.containsKey(name) && !name.equals("undo")) {
                 of("Terms", CHANGES, name + " is none", () -> {
-                    PermissionDesk x = Stage.SOME.desk();
-                    Object[] values = ArgumentSentences.highest(Face.roles(name), Stage.SOME);
-                    Object outcome = Face.outcome(method, x, values);
-                    is(name + " is taken: " + outcome, outcome instanceof String, false);
-                    is("what is seen", seen(x), seen(Stage.SOME.desk()));
-                    is("history", trail(x), trail(Stage.SOME.desk()));
-                    PermissionDesk y = new PermissionDesk();
-                    Face.outcome(method, y, ArgumentSentences.highest(Face.roles(name), Stage.BARE));
-                    noState(() -> y.undo());
+                    noChange(method, Stage.SOME);
+                    noChange(method, Stage.YOUNG);
+                    noChangeAtOnce(method);
                 });
             }
         }
@@ -180,6 +192,124 @@ final class ChangeSentences extends Sentences {
             is("one left", x.undo(), 1);
             is("users", x.users(), 2);
         });
+    }
+
+    /** All stays, but the pad where the call is there for it, and the slots where they are saved to. */
+    private static void noChange(Method method, Stage stage) {
+        String name = method.getName();
+        PermissionDesk x = stage.desk();
+        PermissionDesk y = stage.desk();
+        Object[] values = ArgumentSentences.highest(Face.roles(name), stage);
+        Object outcome = Face.outcome(method, x, values);
+        is(name + " is taken: " + outcome, outcome instanceof String, false);
+        if (!name.equals("append") && !name.equals("clear") && !name.equals("writeEntries")) {
+            is("the pad", typed(x), typed(y));
+        }
+        is("what is seen", seen(x), seen(y));
+        is("history", trail(x), trail(y));
+        if (!name.equals("save")) {
+            is("the slots", slots(x), slots(y));
+        }
+    }
+
+    /** History and slots are looked at with no other calls between. */
+    private static void noChangeAtOnce(Method method) {
+        Object[] values = ArgumentSentences.highest(Face.roles(method.getName()), Stage.ONE);
+        PermissionDesk x = Stage.ONE.desk();
+        Face.outcome(method, x, values);
+        is("undo", x.undo(), 2);
+        PermissionDesk y = Stage.ONE.desk();
+        Face.outcome(method, y, values);
+        is("slot 0", y.restore(0), 1);
+        PermissionDesk z = Stage.ONE.desk();
+        Face.outcome(method, z, values);
+        is("slot 1", z.restore(1), 1);
+        PermissionDesk bare = new PermissionDesk();
+        Face.outcome(method, bare, ArgumentSentences.highest(Face.roles(method.getName()), Stage.BARE));
+        noState(() -> bare.undo());
+        if (!method.getName().equals("save")) {
+            noState(() -> bare.restore(0));
+            noState(() -> bare.restore(1));
+        }
+    }
+
+    private static void whatIsOfTheState() {
+        of("Terms", STATE, "all of each object", () -> {
+            for (int object = 0; object < 20; object++) {
+                PermissionDesk x = chain(11, 8, 20);
+                for (int entry = 0; entry < 6; entry++) {
+                    x.addForUser(object, 10 - entry, 15 - entry, entry % 2 == 0, entry % 3 == 0);
+                }
+                x.giveTo(object, 10);
+                x.setMask(object, 5);
+                x.setInheriting(object, false);
+                String before = one(x, object);
+                x.save(0);
+                changeAll(x, object);
+                for (int n = 0; n < 5; n++) {
+                    x.undo();
+                }
+                is("undone", one(x, object), before);
+                changeAll(x, object);
+                x.restore(0);
+                is("restored", one(x, object), before);
+            }
+        });
+        of("Terms", STATE, "each member", () -> {
+            for (int user = 0; user < 12; user++) {
+                for (int group = 0; group < 8; group++) {
+                    PermissionDesk x = desk(12, 8);
+                    x.save(0);
+                    x.join(user, group);
+                    x.save(1);
+                    x.restore(0);
+                    is("no member at first", x.isMember(user, group), false);
+                    x.undo();
+                    is("undone", x.isMember(user, group), true);
+                    x.leave(user, group);
+                    x.restore(1);
+                    is("restored", x.isMember(user, group), true);
+                }
+            }
+        });
+        of("Terms", STATE, "each nesting", () -> {
+            for (int inner = 0; inner < 8; inner++) {
+                for (int outer = 0; outer < 8; outer++) {
+                    if (inner != outer) {
+                        PermissionDesk x = desk(1, 8);
+                        x.save(0);
+                        x.nest(inner, outer);
+                        x.save(1);
+                        x.restore(0);
+                        is("not nested at first", x.isNested(inner, outer), false);
+                        x.undo();
+                        is("undone", x.isNested(inner, outer), true);
+                        x.unnest(inner, outer);
+                        x.restore(1);
+                        is("restored", x.isNested(inner, outer), true);
+                    }
+                }
+            }
+        });
+    }
+
+    /** What can be seen of one object. */
+    private static String one(PermissionDesk x, int object) {
+        return list(x, object) + " " + x.parentOf(object) + " " + x.ownerOf(object) + " " + x.maskOf(object) + " "
+                + x.isInheriting(object);
+    }
+
+    /** Five changes; an object that has a parent gets another one. */
+    private static void changeAll(PermissionDesk x, int object) {
+        load(x, object + ":-a=r");
+        x.giveTo(object, 1);
+        x.setMask(object, 10);
+        x.setInheriting(object, true);
+        if (object < 2) {
+            x.addUser();
+        } else {
+            x.move(object, 0);
+        }
     }
 
     private static void whatIsNotOfTheState() {
@@ -500,6 +630,9 @@ final class ChangeSentences extends Sentences {
             refused(Stage.PADDED, "IllegalStateException", x -> x.append('!'));
             refused(Stage.PADDED, "IllegalArgumentException", x -> x.append(32));
         });
+        of("Terms", NOTHING, "undo without a state", () -> {
+            refused(Stage.QUIET, "IllegalStateException", x -> x.undo());
+        });
         of("Terms", NOTHING, "on a desk as it is made", () -> {
             refused(Stage.BARE, "IllegalStateException", x -> x.undo());
             refused(Stage.BARE, "IllegalStateException", x -> x.restore(0));
@@ -540,7 +673,6 @@ final class ChangeSentences extends Sentences {
         acts.put("move below itself, young", x -> x.move(1, 3));
         acts.put("share without one of the rights, young", x -> x.share(1, 1, 0, 15));
         acts.put("load a list that is not complete, young", x -> x.loadEntries());
-        acts.put("restore from an empty slot, young", x -> x.restore(1));
         return acts;
     }
 

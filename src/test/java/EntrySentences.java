@@ -118,6 +118,7 @@ final class EntrySentences extends Sentences {
             x.removeEntry(0, 0);
             is("list", list(x, 0), "0:");
             is("it counts no more", x.isAllowed(1, 0, 0), false);
+            is("by handing down", x.isAllowedByHandingDown(1, 0, 0), false);
         });
         of("Promise 18", "Returns how many entries the list has then.", () -> {
             PermissionDesk x = sixEntries();

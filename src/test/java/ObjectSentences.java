@@ -86,6 +86,18 @@ final class ObjectSentences extends Sentences {
             x.make(0, 0);
             is("list of the next one", x.entriesOf(19), 0);
         });
+        of("Promise 9", "Removes an object, and its entries.", "they count no more", () -> {
+            PermissionDesk x = desk(2, 0);
+            x.make(0, 0);
+            x.addForAll(1, 15, true, true);
+            x.remove(1);
+            x.make(0, 0);
+            is("at the next one", x.rightsOf(1, 1), 0);
+            is("by handing down", x.isAllowedByHandingDown(1, 1, 0), false);
+            is("deciding entry", x.decidingEntry(1, 1, 0), NONE);
+            x.addForUser(1, 0, 2, true, true);
+            is("behind what is added then", x.isAllowedByHandingDown(1, 1, 0), false);
+        });
         of("Promise 9", "Returns how many objects there are then.", () -> {
             PermissionDesk x = chain(1, 0, 20);
             for (int object = 19; object > 0; object--) {

@@ -148,6 +148,22 @@ final class RightSentences extends Sentences {
                 x.setMask(19, 15);
             }
         });
+        of(promise, words, "each set of rights", () -> {
+            for (int rights = 1; rights < 16; rights++) {
+                PermissionDesk x = desk(2, 0);
+                x.addForUser(0, 1, rights, true, false);
+                for (int right = 0; right < 4; right++) {
+                    is(rights + " allowed, " + right, asked(x, byHanding, 1, 0, right), (rights >> right & 1) == 1);
+                }
+                x.share(0, 0, 1, 15);
+                x.removeEntry(0, 1);
+                x.addForUser(0, 1, rights, false, false);
+                x.moveEntry(0, 1, 0);
+                for (int right = 0; right < 4; right++) {
+                    is(rights + " refused, " + right, asked(x, byHanding, 1, 0, right), (rights >> right & 1) == 0);
+                }
+            }
+        });
         of(promise, words, "nothing is changed", () -> {
             PermissionDesk x = Stage.SOME.desk();
             String before = seen(x);
@@ -214,16 +230,18 @@ final class RightSentences extends Sentences {
                 is("to manage, at " + object, x.isAllowedByHandingDown(1, object, 3), object == 10);
             }
         });
-        of("Promise 49", words, "lists that are full", () -> {
+        of("Promise 49", words, "the longest list, of 120 entries", () -> {
             PermissionDesk x = chain(3, 0, 20);
-            for (int object = 0; object < 20; object++) {
-                for (int entry = 0; entry < 5; entry++) {
+            for (int object = 19; object >= 0; object--) {
+                for (int entry = object == 0 ? 1 : 0; entry < 6; entry++) {
                     x.addForUser(object, 1, 2, false, true);
                 }
             }
             x.addForUser(0, 2, 1, true, true);
-            is("the last of 101 entries", x.isAllowedByHandingDown(2, 19, 0), true);
+            is("the last one", x.isAllowedByHandingDown(2, 19, 0), true);
+            is("again", x.isAllowedByHandingDown(2, 19, 0), true);
             is("by climbing", x.isAllowed(2, 19, 0), true);
+            is("at the object 0", x.isAllowedByHandingDown(2, 0, 0), true);
         });
     }
 

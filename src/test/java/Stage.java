@@ -6,10 +6,14 @@ final class Stage {
 
     /** As it is made. */
     static final Stage BARE = new Stage("bare", Stage::bare, 1, 0, List.of(0), 0, 0, 0);
+    /** One of everything; the history has 3 states, both slots a snapshot. */
+    static final Stage ONE = new Stage("one", Stage::one, 1, 1, List.of(0), 0, 1, 1);
     /** Some of everything; the history has 5 states, the slot 0 a snapshot, the slot 1 none. */
     static final Stage SOME = new Stage("some", Stage::some, 3, 4, List.of(0, 1, 3), 1, 3, 3);
-    /** The same, but the history has 2 states. */
+    /** The same, but the history has 2 states, and both slots a snapshot. */
     static final Stage YOUNG = new Stage("young", Stage::young, 2, 3, List.of(0, 1, 3), 1, 3, 1);
+    /** Less of it, and the history has no state. */
+    static final Stage QUIET = new Stage("quiet", Stage::quiet, 2, 3, List.of(0, 1, 3), 1, 0, 0);
     /** As much as there can be of users, groups, objects, entries of the object 19, and requests kept. */
     static final Stage FULL = new Stage("full", Stage::full, 12, 8, List.of(0, 1, 2, 3, 4, 5, 6, 7, 8, 9,
             10, 11, 12, 13, 14, 15, 16, 17, 18, 19), 19, 6, 8);
@@ -44,6 +48,16 @@ final class Stage {
 
     private static PermissionDesk bare() {
         return new PermissionDesk();
+    }
+
+    private static PermissionDesk one() {
+        PermissionDesk x = new PermissionDesk();
+        x.addGroup();
+        x.addForAll(0, 1, true, true);
+        x.ask(0, 0, 0);
+        x.save(0);
+        x.save(1);
+        return x;
     }
 
     private static PermissionDesk base() {
@@ -82,7 +96,15 @@ final class Stage {
         }
         x.restore(0);
         x.ask(1, 1, 0);
+        x.save(1);
         Desks.append(x, "1:+a");
+        return x;
+    }
+
+    private static PermissionDesk quiet() {
+        PermissionDesk x = young();
+        x.undo();
+        x.undo();
         return x;
     }
 
@@ -97,6 +119,7 @@ final class Stage {
         for (int entry = 0; entry < 6; entry++) {
             x.addForUser(19, entry, 1 + entry, entry % 2 == 0, entry % 3 == 0);
         }
+        x.addForAll(0, 1, true, true);
         x.save(0);
         for (int n = 0; n < 10; n++) {
             x.ask(n % 4, 19 - n, n % 3);

@@ -21,6 +21,7 @@ final class TextSentences extends Sentences {
         fault();
         loadEntries();
         loadEntriesRefused();
+        refusedBefore();
         writeEntries();
         codeAt();
     }
@@ -421,6 +422,18 @@ final class TextSentences extends Sentences {
             is("the pad", typed(x), "");
             is("the other list", list(x, 18), "18:+a=r");
         });
+        of("Promise 25", words, "nothing is left of a longer one", () -> {
+            PermissionDesk x = chain(2, 0, 2);
+            load(x, "0:-u0=r;+a=w*;+a=r*;+a=x*;+a=m*;+a=r*");
+            load(x, "0:-u0=r");
+            for (int right = 0; right < 4; right++) {
+                is("right " + right, x.isAllowed(1, 1, right), false);
+                is("by handing down, " + right, x.isAllowedByHandingDown(1, 1, right), false);
+                is("deciding entry, " + right, x.decidingEntry(1, 0, right), NONE);
+            }
+            x.addForAll(0, 2, true, true);
+            is("what is added then", list(x, 0), "0:-u0=r;+a=w*");
+        });
         of("Promise 25", words, "an empty one", () -> {
             PermissionDesk x = desk(2, 0);
             load(x, "0:+a=r;+a=w;+a=x;+a=m;-a=r;-a=w");
@@ -476,6 +489,21 @@ final class TextSentences extends Sentences {
             refusedThenTaken(x, "0:+g7=r", () -> x.addGroup());
             PermissionDesk y = desk(12, 0);
             refusedThenTaken(y, "0:+a=r;+u11=r;+u0=r;-o=r;+a=w;-g0=m*", () -> y.addGroup());
+        });
+    }
+
+    private static void refusedBefore() {
+        String words = "or tells of an object, a user or a group that there is not";
+        of("Promise 25", words, "what another text told does not matter", () -> {
+            PermissionDesk x = desk(1, 0);
+            type(x, "0:+a=r;+u11=r;+g7=r;+u11=r;+g7=r;+u11=r");
+            noState(() -> x.loadEntries());
+            type(x, "0:+a=w");
+            is("entries", x.loadEntries(), 1);
+            type(x, "19:");
+            noState(() -> x.loadEntries());
+            type(x, "0:");
+            is("entries", x.loadEntries(), 0);
         });
     }
 
