@@ -6,15 +6,28 @@ import java.nio.file.Path;
 import java.util.ArrayList;
 import java.util.Arrays;
 import java.util.List;
+import java.util.Map;
 import java.util.regex.Pattern;
 
-/** What of LANGUAGE.md can be seen in the source by its words, and in the classes by their members. */
+/**
+ * What of LANGUAGE.md can be seen in the source by its words, in the classes by their members, and in the
+ * compiled methods by what they call and make.
+ */
 public final class LanguageTest {
 
     private static final int LONGEST_METHOD = 60;
     private static final int MOST_CLASSES = 12;
     private static final int MOST_FIELDS = 20;
     private static final int MOST_PARAMETERS = 7;
+    private static final int DEEPEST_CALL = 8;
+
+    private static final Pattern EXCEPTION = Pattern.compile("java/lang/(IllegalState|IllegalArgument|"
+            + "IndexOutOfBounds|Arithmetic|UnsupportedOperation|Runtime)Exception"
+            + "|java/util/NoSuchElementException");
+    private static final Pattern LIBRARY = Pattern.compile("java/lang/Object\\.<init>"
+            + "|java/lang/String\\.(length|charAt|isEmpty|equals|indexOf|substring|toCharArray)"
+            + "|java/lang/(Integer|Long|Math)\\.(compare|max|min|abs|bitCount|floorDiv|floorMod)"
+            + "|java/lang/System\\.arraycopy|java/util/Arrays\\.(copyOf|copyOfRange|fill)");
 
     private static final String[] BANNED = {"->", "::", "\\bfinally\\b", "\\bcatch\\b", "\\bsynchronized\\b",
         "\\bassert\\b", "\\bpackage\\b", "\\bhashCode\\b", "\\btoString\\b", "\\bSystem\\.(?!arraycopy)",
@@ -28,6 +41,12 @@ public final class LanguageTest {
         words(lines);
         lengths(lines);
         members();
+        Map<String, Compiled.Body> methods = Compiled.methodsOf(PermissionDesk.class);
+        callsOfTheLibrary(methods);
+        whatIsMade(methods);
+        for (Method method : Face.METHODS) {
+            depths(methods, "PermissionDesk." + method.getName(), 1);
+        }
         Check.end();
     }
 
@@ -104,5 +123,36 @@ public final class LanguageTest {
             }
         }
         Check.is("fields of " + type.getName(), count <= MOST_FIELDS, true);
+    }
+
+    private static void callsOfTheLibrary(Map<String, Compiled.Body> methods) {
+        methods.forEach((name, body) -> {
+            Check.is(name + " has dynamic calls", body.hasDynamicCalls, false);
+            for (String called : body.calls) {
+                boolean isException = EXCEPTION.matcher(called.replace(".<init>", "")).matches();
+                boolean isFine = methods.containsKey(called) || isException || LIBRARY.matcher(called).matches();
+                Check.is(name + " may call " + called, isFine, true);
+            }
+        });
+    }
+
+    /** What is made at each call would fill the room of a run: only the slots' states are, once each. */
+    private static void whatIsMade(Map<String, Compiled.Body> methods) {
+        methods.forEach((name, body) -> {
+            boolean isFree = name.endsWith(".<init>") || name.equals("PermissionDesk.save");
+            for (String made : body.makes) {
+                Check.is(name + " may make " + made, isFree || EXCEPTION.matcher(made).matches(), true);
+            }
+        });
+    }
+
+    /** A method that calls itself, by others too, would go too deep here. */
+    private static void depths(Map<String, Compiled.Body> methods, String name, int depth) {
+        Check.is(name + " is called " + depth + " deep", depth <= DEEPEST_CALL, true);
+        if (depth <= DEEPEST_CALL && methods.containsKey(name)) {
+            for (String called : methods.get(name).calls) {
+                depths(methods, called, depth + 1);
+            }
+        }
     }
 }
